@@ -4,10 +4,12 @@ public final class ImagesTest {
 
     public static void main(String[] args) {
         imageKeepsAll();
+        imageKeepsEachClock();
         imagesAreTwo();
         imageTakesThePlaceOfWhatWasKept();
         imageAndRestoreRefuse();
         countTells();
+        countTellsBlocksThatCameNowhere();
         countRefuses();
         DUE.end();
     }
@@ -77,6 +79,20 @@ public final class ImagesTest {
         due("the image stays", x.count(6), 1);
     }
 
+    private static void imageKeepsEachClock() {
+        PathSounder x = new PathSounder();
+        x.nodes(5);
+        for (int node = 0; node < 5; node++) {
+            x.clock(node, 20 + node);
+        }
+        x.image(1);
+        x.nodes(5);
+        x.restore(1);
+        for (int node = 0; node < 5; node++) {
+            due("CLOCK restored of " + node, x.clock(node, 0), 20 + node);
+        }
+    }
+
     private static void imagesAreTwo() {
         PathSounder x = new PathSounder();
         x.pause(1);
@@ -139,6 +155,13 @@ public final class ImagesTest {
         due("WHICH of the last link", x.count(45), 8);
         due("BASE there of link 0", x.count(10), 17);
         due("BASE back of link 2", x.count(32), 5);
+    }
+
+    private static void countTellsBlocksThatCameNowhere() {
+        PathSounder x = new PathSounder();
+        x.link(0, 4, 1);
+        x.send(11);
+        due("BLOCKS, all lost on link 0", x.count(4), 3);
     }
 
     private static void countRefuses() {

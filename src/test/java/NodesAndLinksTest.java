@@ -12,6 +12,7 @@ public final class NodesAndLinksTest {
         linkRefuses();
         linkHoldsAfterPackets();
         clockAnswersAndForgetsBounds();
+        clockForgetsEachPairOfTheNode();
         clockRefuses();
         blockAnswers();
         blockRefuses();
@@ -170,6 +171,27 @@ public final class NodesAndLinksTest {
         due("apart(1, 3, 1)", x.apart(1, 3, 1), GONE + PathSounder.NONE);
         due("apart(0, 2, 1)", x.apart(0, 2, 1), 8);
         due("apart(2, 3, 0)", x.apart(2, 3, 0), -4);
+    }
+
+    private static void clockForgetsEachPairOfTheNode() {
+        for (int node = 0; node < 5; node++) {
+            PathSounder x = new PathSounder();
+            x.nodes(5);
+            for (int from = 0; from < 5; from++) {
+                for (int to = from + 1; to < 5; to++) {
+                    x.sound(from, to);
+                }
+            }
+            x.clock(node, 1);
+            due("pairs without node " + node, x.count(5), 6);
+            for (int other = 0; other < 5; other++) {
+                if (other != node) {
+                    String both = "(" + node + ", " + other + ")";
+                    due("tight" + both, x.tight(node, other), GONE + PathSounder.NONE);
+                    due("tight turned of " + both, x.tight(other, node), GONE + PathSounder.NONE);
+                }
+            }
+        }
     }
 
     private static void clockRefuses() {

@@ -17,6 +17,7 @@ public final class PacketsTest {
         tookRefuses();
         firstFindsBlockLinkAndHowMany();
         firstLooksAtAllLinksAdded();
+        firstFindsEachLink();
         firstRefuses();
         DUE.end();
     }
@@ -243,6 +244,19 @@ public final class PacketsTest {
         due("the first link is told", x.first(10, 1), 1);
         due("and its own loss", x.first(10, 2), 3);
         due("eleven are not above eleven", x.first(11, 0), PathSounder.NONE);
+    }
+
+    private static void firstFindsEachLink() {
+        for (int link = 0; link < 4; link++) {
+            PathSounder x = new PathSounder();
+            x.nodes(5);
+            x.link(3, 4, 1);
+            x.link(link, 4, link == 3 ? 1 : 9);
+            x.send(5);
+            due("block, lost on link " + link, x.first(4, 0), 0);
+            due("link, lost on link " + link, x.first(4, 1), link);
+            due("how many, lost on link " + link, x.first(4, 2), link == 3 ? 5 : 1);
+        }
     }
 
     private static void firstRefuses() {

@@ -10,6 +10,7 @@ public final class SoundingsTest {
         apartKeepsTheNarrowest();
         apartRefuses();
         tightGoesByWayOfOthers();
+        tightGoesOverAllNodes();
         tightRefuses();
         truthAddsAndTakesTight();
         truthRefuses();
@@ -132,6 +133,17 @@ public final class SoundingsTest {
         x.sound(0, 4);
         due("now it is", x.tight(0, 4), 0);
         due("and serves others", x.tight(0, 3), 29);
+    }
+
+    private static void tightGoesOverAllNodes() {
+        PathSounder x = new PathSounder();
+        x.nodes(5);
+        for (int from = 0; from < 4; from++) {
+            x.link(from, 0, from + 2);
+            x.sound(from, from + 1);
+        }
+        due("from the first to the last", x.tight(0, 4), 1 + 2 + 3 + 4);
+        due("from the last to the first", x.tight(4, 0), 4 * 4);
     }
 
     private static void tightRefuses() {
