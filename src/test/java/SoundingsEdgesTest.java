@@ -74,9 +74,9 @@ public final class SoundingsEdgesTest extends Edges {
         }
     }
 
-    /** There 5 and 6 to 11; back link 1 first, 5 and 11 by 4 to 19, then link 0, 5 and 19 by 3 to 25. */
+    /** There to 11; back over link 1 first, 5 and 3 more to 19, then over link 0, 5 and 4 more to 28. */
     static void soundGoesBackOverTheLastLinkFirst() {
-        run("back over them", "link(1, 0, 6)", "link(1, 3, 3)", "link(0, 3, 2)").due("sound(0, 2)", 25);
+        run("back over them", "link(1, 0, 6)", "link(1, 3, 3)", "link(0, 3, 4)").due("sound(0, 2)", 28);
     }
 
     static void soundIsNotDropped() {
