@@ -1,29 +1,23 @@
-import java.io.IOException;
 import java.lang.reflect.Constructor;
 import java.lang.reflect.Field;
 import java.lang.reflect.Method;
 import java.lang.reflect.Modifier;
-import java.nio.file.Files;
-import java.nio.file.Path;
 import java.util.Arrays;
 import java.util.Set;
 import java.util.TreeSet;
-import java.util.regex.Pattern;
 
-/** The face that the document gives and no more, the constants, and words that LANGUAGE.md leaves out. */
+/** The face that the document gives and no more, and the constants. */
 public final class FaceTest {
     private static final Due DUE = new Due();
-    private static final Path SOURCE = Path.of("src/main/java/PathSounder.java");
     private static final Set<String> METHODS = Set.of("nodes 1", "link 3", "clock 2", "block 1", "pause 1", "send 1",
         "kept 3", "lost 2", "took 4", "first 2", "sound 2", "apart 3", "tight 2", "truth 5", "image 1", "restore 1",
         "count 1");
     private static final Set<String> CONSTANTS = Set.of("UNKNOWN", "OUTSIDE", "STATE", "FULL", "NO", "NONE", "GONE");
 
-    public static void main(String[] args) throws IOException {
+    public static void main(String[] args) {
         constantsAreAsTold();
         membersAreAsTold();
         noHiddenNameIsAPublicOne();
-        sourceKeepsToTheLanguage();
         DUE.end();
     }
 
@@ -82,24 +76,6 @@ public final class FaceTest {
                 && !Modifier.isPublic(inside.getModifiers()) && !Modifier.isProtected(inside.getModifiers()));
             for (Method m : inside.getDeclaredMethods()) {
                 dueTrue(m + " has a name of its own", !names.contains(m.getName()));
-            }
-        }
-    }
-
-    /** A word can be looked for only where no comment says it. */
-    private static void sourceKeepsToTheLanguage() throws IOException {
-        String text = Files.readString(SOURCE);
-        String code = text.replaceAll("(?s)/\\*.*?\\*/", " ").replaceAll("//[^\\n]*", " ");
-        String[] leftOut = {"\\bthrows?\\b", "\\btry\\b", "\\bcatch\\b", "\\bfinally\\b", "\\bsynchronized\\b",
-            "\\bassert\\b", "\\bpackage\\b", "\\bprotected\\b", "Exact\\b", "\\bSystem\\.(?!arraycopy\\b)",
-            "\\bequals\\b", "\\bhashCode\\b", "\\btoString\\b", "->", "::"};
-        for (String pattern : leftOut) {
-            dueTrue("no " + pattern, !Pattern.compile(pattern).matcher(code).find());
-        }
-        dueTrue("signs 1 to 127 alone", text.chars().allMatch(c -> c >= 1 && c <= 127));
-        for (String line : text.split("\\n")) {
-            if (line.startsWith("import ")) {
-                dueTrue(line, line.equals("import java.util.Arrays;"));
             }
         }
     }
